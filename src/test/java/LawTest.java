@@ -57,6 +57,13 @@ final class LawTest {
         check.due("soft without a surface", shock("soft"), 0);
         check.due("brittle", shock("brittle"), 5);
         check.due("load", cost("load"), 80);
+        StringBuilder longest = new StringBuilder("1");
+        while (LAND.length() + longest.length() < 990) {
+            longest.append("+1");
+        }
+        check.due("the longest", cost(longest.toString()), (longest.length() + 1) / 2);
+        check.due("the widest", shock("0 or 0<0+0*(0 or 0<0+0*(0 or 0<0+0*(0 or 0<0+0*(0 or 0<0+1*1))))"), 0);
+        check.due("the widest", shock("0 or 0<0+1*(0 or 0<0+1*(0 or 0<0+1*(0 or 0<0+1*(0 or 0<0+1*1))))"), 1);
         check.due("way by all", cost("load*100+long+holes+hard+soft"), 8042);
         LostRoads roads = Check.told(LAND + "shock 50+hard*2+soft;");
         roads.years(1);

@@ -74,6 +74,24 @@ final class MarkTest {
         roads.mark(0, true);
         check.due("year", roads.count(4), 1);
         check.due("one that was not laid", roads.mark(3, true), false);
+        roads.mark(1, true);
+        roads.years(1);
+        roads.mark(2, false);
+        roads.mark(0, true);
+        roads.lose(0, 0, 44);
+        roads.years(6);
+        check.due("other layers", roads.layer(2, 0, 0), 74);
+        roads.mark(2, true);
+        check.due("its own layers", roads.layer(2, 0, 0), 30);
+        check.due("and no more", roads.layer(4, 0, 0), -1);
+        LostRoads stranded = Check.told("stuff s hard 1 soft 5;place a;place b;road a b long 1 holes 999;"
+                + "trade a b of s load 300;shock 0;");
+        stranded.years(1);
+        stranded.mark(0, false);
+        stranded.years(1);
+        check.due("stranded", stranded.trade(0, 4), -1);
+        stranded.mark(0, true);
+        check.due("not yet", stranded.trade(0, 4), 300);
     }
 
     private static void netTakesThemAway(Check check) {

@@ -34,7 +34,7 @@ final class ModelTest {
         roads = new LostRoads();
         model = new Model();
         int calls = 0;
-        while (calls < 400) {
+        while (calls < 300) {
             if (calls == 0 || random.nextInt(150) == 0) {
                 calls += tell(random.nextInt(4) == 0 ? spoilt(text()) : text());
             }

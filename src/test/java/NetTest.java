@@ -39,6 +39,7 @@ final class NetTest {
         right("stuff\ns hard9soft0;place a;");
         right("stuff s hard 0009 soft 00;");
         right("place abcdefgh;");
+        right("place z;place zz;stuff az hard 1 soft 1;");
         right(TWO + "road a b long 1holes 2;");
         right("place brittle;place lost;place strong;");
         wrong(1, "place ", "abcdefghi;");

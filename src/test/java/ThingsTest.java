@@ -75,6 +75,16 @@ final class ThingsTest {
         roads.years(1);
         check.due("glass", roads.surface(0, 0), 60);
         check.due("elsewhere", roads.surface(2, 0), 0);
+        LostRoads few = Check.told("stuff s hard 0 soft 6;stuff t hard 1 soft 9;place a;place b;"
+                + "road a b long 1 holes 9;");
+        few.lose(0, 0, 1);
+        few.years(1);
+        check.due("soft by one part", few.road(0, 5), 6);
+        few.lose(0, 0, 0);
+        few.lose(0, 1, 1);
+        few.years(1);
+        check.due("hard: 1 / 2, cut", few.road(0, 4), 0);
+        check.due("soft: 15 / 2, cut", few.road(0, 5), 7);
         check.due("surface of no road", roads.surface(3, 0), -1);
         check.due("surface of no road", roads.surface(-1, 0), -1);
         check.due("surface of no stuff", roads.surface(0, 2), -1);

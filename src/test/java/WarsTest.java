@@ -4,6 +4,7 @@ final class WarsTest {
         Check check = new Check("WarsTest");
         bounds(check);
         oneRoad(check);
+        manyTrades(check);
         twoRoads(check);
         check.end();
     }
@@ -61,6 +62,14 @@ final class WarsTest {
             check.due("comes by " + seed, roads.wars(seed, 20, 3, 1), comes);
         }
         check.due("nothing has changed", roads.road(0, 3), 300);
+    }
+
+    /** A trade that is stranded, and two that come through for certain. */
+    private static void manyTrades(Check check) {
+        LostRoads roads = Check.told("stuff s hard 0 soft 0;place a;place b;place c;road a b long 1 holes 0;"
+                + "trade a b of s load 100;trade a c of s load 30;trade b a of s load 7;shock 50;");
+        check.due("50 + 4 in each of 20 runs", roads.wars(3, 20, 1, 1), 20 * 54);
+        check.due("all hold", roads.wars(3, 20, 1, 0), 20);
     }
 
     private static void twoRoads(Check check) {

@@ -8,6 +8,7 @@ final class YearsTest {
         alongTheWay(check);
         allByTheBeginning(check);
         together(check);
+        eachItsWay(check);
         onPurpose(check);
         onPurposeWhereWorn(check);
         layers(check);
@@ -55,6 +56,19 @@ final class YearsTest {
                 + "shock 0;");
         roads.years(1);
         check.due("a tenth of 11 together", roads.road(0, 3), 11);
+    }
+
+    /** Trades of unlike loads take unlike roads in one and the same year. */
+    private static void eachItsWay(Check check) {
+        LostRoads roads = Check.told(TWO + "road a b long 1 holes 10;road a b long 2 holes 20;"
+                + "way ( long = 1 ) * load + 50;trade a b of s load 100;trade a b of s load 10;");
+        check.due("all would take the second", roads.way(1, 0), 1);
+        roads = Check.told(TWO + "road a b long 1 holes 10;road a b long 2 holes 20;"
+                + "way ( long = 1 ) * load + ( long = 2 ) * 50;trade a b of s load 100;trade a b of s load 10;"
+                + "trade b a of t load 200;shock 0;mend 0;");
+        roads.years(1);
+        check.due("the light one", roads.road(0, 3), 11);
+        check.due("the heavy ones", roads.road(1, 3), 50);
     }
 
     private static void onPurpose(Check check) {
@@ -113,6 +127,19 @@ final class YearsTest {
         // 23 holes now: 2 + 4.
         check.due("the next layer", roads.layer(1, 0, 0), 6);
         check.due("the first one stays", roads.layer(0, 0, 0), 11);
+        LostRoads many = Check.told(TWO + "road a b long 1 holes 9;".repeat(10) + "stuff u hard 1 soft 1;"
+                + "stuff v hard 1 soft 1;stuff w hard 1 soft 1;");
+        for (int year = 0; year < 40; year++) {
+            for (int cell = year % 5; cell < 50; cell += 13) {
+                many.lose(cell / 5, cell % 5, year * 2 + cell % 9);
+            }
+            many.years(1);
+        }
+        for (int year = 0; year < 40; year++) {
+            for (int cell = year % 5; cell < 50; cell += 13) {
+                check.due("each layer by itself", many.layer(year, cell / 5, cell % 5), year * 2 + cell % 9);
+            }
+        }
     }
 
     private static void keptLayers(Check check) {
