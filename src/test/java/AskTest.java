@@ -163,7 +163,8 @@ final class AskTest {
                 + "road a b long 1 holes 50;road b a long 1 holes 60;trade a b of s load 300;");
         roads.lose(1, 1, 2);
         roads.years(1);
-        String before = picture(roads);
+        String before = Check.picture(roads);
+        int layer = roads.layer(0, 1, 1);
         roads.starves(0, 50);
         roads.purpose(0, 1, 50);
         roads.purpose(1, 0, 50);
@@ -175,25 +176,11 @@ final class AskTest {
         roads.wars(7, 20, 50, 0);
         roads.went(0, 1);
         roads.cost(0);
-        check.due("all is as it was: " + picture(roads) + " was " + before, picture(roads).equals(before), true);
+        check.due("all is as it was", Check.picture(roads), before);
+        check.due("the layer, too", roads.layer(0, 1, 1), layer);
         check.due("no trade more", roads.trade(1, 0), -1);
         roads.years(1);
         check.due("what is lost on purpose is as it was", roads.layer(1, 1, 1), 2);
         check.due("the trade carries what it did", roads.trade(0, 2), 0);
-    }
-
-    private static String picture(LostRoads roads) {
-        StringBuilder s = new StringBuilder();
-        for (int what = 0; what < 8; what++) {
-            s.append(roads.count(what)).append(',').append(roads.road(0, what)).append(',')
-                    .append(roads.road(1, what)).append(',').append(roads.trade(0, what)).append(',')
-                    .append(roads.stuff(0, what)).append(',').append(roads.stuff(1, what)).append(',');
-        }
-        for (int r = 0; r < 2; r++) {
-            for (int stuff = 0; stuff < 2; stuff++) {
-                s.append(roads.surface(r, stuff)).append(',').append(roads.layer(0, r, stuff)).append(',');
-            }
-        }
-        return s.toString();
     }
 }

@@ -44,7 +44,7 @@ final class LawTest {
         check.due("1+1=2 and 3<4", shock("1+1=2 and 3<4"), 1);
         check.due("0-1 is so", shock("(0-1) and 1"), 1);
         check.due("0-1<0", shock("0-1<0"), 1);
-        // 9999 * 9999 * 9999 wraps to -728379967: below 0.
+        // 9999 * 9999 * 9999 wraps to -1027349969: below 0.
         check.due("ints wrap", shock("9999*9999*9999 < 0"), 1);
         check.due("ints wrap to what they do", shock("0-9999*9999*9999-6374*9999*10-9967-9999*9100"),
                 Math.max(0, Math.min(100, -(9999 * 9999 * 9999) - 6374 * 9999 * 10 - 9967 - 9999 * 9100)));

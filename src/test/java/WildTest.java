@@ -6,7 +6,7 @@ import java.util.Random;
 final class WildTest {
     private static final int[] EDGES = {Integer.MIN_VALUE, -1000, -2, -1, 0, 1, 2, 3, 4, 5, 6, 7, 9, 10, 11, 20, 21,
         39, 40, 41, 49, 50, 51, 99, 100, 999, 1000, 9999, 10000, Integer.MAX_VALUE};
-    private static final String FULL = full();
+    private static final String FULL = Check.FULL;
 
     private final Random random;
     private final Check check;
@@ -24,26 +24,6 @@ final class WildTest {
         room(check);
         longRun(check);
         check.end();
-    }
-
-    /** A net with as many of each thing as there may be. */
-    private static String full() {
-        StringBuilder s = new StringBuilder();
-        for (char c = 'p'; c < 'u'; c++) {
-            s.append("stuff ").append(c).append(" hard ").append(c - 'p').append(" soft ").append('t' - c).append(";");
-        }
-        for (char c = 'a'; c < 'h'; c++) {
-            s.append("place ").append(c).append(";");
-        }
-        String[] ends = {"a b", "b c", "c d", "d e", "e f", "f g", "a c", "c e", "e g", "a g"};
-        for (int i = 0; i < ends.length; i++) {
-            s.append("road ").append(ends[i]).append(" long 9 holes ").append(i * 9).append(";");
-        }
-        for (int i = 0; i < 6; i++) {
-            s.append("trade ").append((char) ('a' + i)).append(" ").append((char) ('b' + i)).append(" of ")
-                    .append((char) ('p' + i % 5)).append(" load ").append(150 * (i + 1)).append(";");
-        }
-        return s.append("way long*load-holes;shock brittle+holes;mend strong+1;").toString();
     }
 
     private int edge() {
