@@ -389,9 +389,14 @@ final class BoundsAskTest {
         check.due("back once more", roads.mark(3, true), true);
         check.due("its year", roads.count(4), 3);
         LostRoads kept = Check.told("stuff s hard 0 soft 0;place a;place b;road a b long 1 holes 500;");
+        kept.mark(0, false);
         kept.lose(0, 0, 4);
         kept.years(40);
         kept.mark(2, false);
+        kept.mark(0, true);
+        kept.lose(0, 0, 9);
+        kept.years(40);
+        check.due("other layers from the first mark on", kept.layer(39, 0, 0), 9);
         kept.mark(2, true);
         check.due("the first layer", kept.layer(0, 0, 0), 4);
         check.due("the last layer that is kept", kept.layer(39, 0, 0), 4);

@@ -18,6 +18,7 @@ final class BoundsLawTest {
         test.withinValues();
         test.factsOfLaws();
         test.factValues();
+        test.factsOfTheSurface();
         test.oneOrNought();
         test.whatIsSo();
         test.wraps();
@@ -121,10 +122,10 @@ final class BoundsLawTest {
         value("not 1<2", 1);
         value("not (1<2)", 0);
         value("not not 7", 1);
-        wrong(1, "way ", "();".substring(1));
+        wrong(1, "way ", ");");
         wrong(1, "way (", ");");
         wrong(1, "way (1", ";");
-        wrong(1, "way (1))".substring(0, 7), ");");
+        wrong(1, "way (1)", ");");
         wrong(1, "way 1", "(1);");
         wrong(1, "way 1 ", "1;");
         wrong(1, "way not ", ";");
@@ -222,6 +223,27 @@ final class BoundsLawTest {
             roads.lose(0, 0, 1);
             roads.years(1);
             check.due("brittle and strong in mend", 900 - roads.road(0, 3), (9 - soft) * 11);
+        }
+    }
+
+    private void factsOfTheSurface() {
+        check.sentence("hard, soft (of its SURFACE)");
+        // Each law by itself, on a road whose surface is hard 7 and soft 4 from the second year on.
+        String land = "stuff s hard 7 soft 4;place a;place b;road a b long 12 holes 900;trade a b of s load 80;";
+        for (String law : new String[] {"way hard*10+soft;", "way load*100+hard*10+soft;", "shock hard*10+soft;",
+            "mend hard*10+soft;", "shock hard*10+soft+brittle;", "mend strong+hard*10+soft+brittle+lost;"}) {
+            LostRoads roads = Check.told(land + (law.startsWith("shock") ? "" : "shock 0;") + law);
+            roads.lose(0, 0, 1);
+            roads.years(1);
+            int holes = roads.road(0, 3);
+            if (law.startsWith("way")) {
+                check.due(law, roads.cost(0), law.contains("load") ? 8074 : 74);
+            } else if (law.startsWith("shock")) {
+                check.due(law, roads.shock(0, 0), law.contains("brittle") ? 79 : 74);
+            } else {
+                roads.years(1);
+                check.due(law, holes + 8 - roads.road(0, 3), law.contains("strong") ? 7 + 74 + 5 + 1 : 74);
+            }
         }
     }
 

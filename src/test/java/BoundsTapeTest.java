@@ -176,8 +176,7 @@ final class BoundsTapeTest {
         net("place zzzzzzzz;place zzzzzzzy;place yzzzzzzz;place zzzzzzz;place z;place zzzzyzzz;place aaaaaaaa;", 0);
         net("place a;place aa;place aaa;place aaaa;place aaaaa;place aaaaaa;place aaaaaaa;", 0);
         net("place ab;place ba;place abb;place aab;place bb;place b;place a;", 0);
-        // 26 is 5 bits' worth: z and what comes of carrying over.
-        net("place az;place b;place ba;place bz;place zz;place aaz;place aba;", 0);
+        net("place az;place b;place ba;place bz;place zz;place aaz;place z;", 0);
         net("place zzzzzzzz;place zzzzzzzz;", 3 + 16 * 21);
     }
 

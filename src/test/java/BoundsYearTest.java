@@ -271,6 +271,19 @@ final class BoundsYearTest {
                 + "trade a b of t load 4;shock 0;");
         roads.years(1);
         check.due("3 + 3 + 4", roads.road(0, 3), 6);
+        check.sentence("each trade, in order, takes the WAY");
+        roads = Check.told(TWO + "road a b long 1 holes 0;road a b long 2 holes 0;trade a b of s load 100;"
+                + "trade b a of s load 200;trade a b of s load 300;shock 10;way (long=1)*load+200;mend 0;");
+        due(roads, 0, 200, 1);
+        roads = Check.told(TWO + "road a b long 1 holes 0;road a b long 2 holes 0;trade a b of s load 100;"
+                + "trade b a of s load 200;trade a b of s load 300;shock 10;way (long=1)*load+(long=2)*250;mend 0;");
+        due(roads, 0, 100, 0);
+        due(roads, 2, 250, 1);
+        roads.years(1);
+        check.due("two fall on one road", roads.layer(0, 0, 0), 30);
+        check.due("and one on the other", roads.layer(0, 1, 0), 30);
+        check.due("300 passed", roads.road(0, 3), 30);
+        check.due("300 passed", roads.road(1, 3), 30);
     }
 
     private void mostHoles() {
