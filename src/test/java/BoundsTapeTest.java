@@ -222,6 +222,11 @@ final class BoundsTapeTest {
             boolean parts = sign == ' ' || sign == ';';
             net("way 1" + (char) sign + "1;", joins ? 0 : 1 + 16 * (parts ? 6 : 5));
         }
+        // At the beginning of a line no sign can stand, nor can any be taken for the end.
+        for (int sign = 33; sign < 127; sign++) {
+            net("place a;" + (char) sign, 1 + 16 * 8);
+            net("place a;" + (char) sign + " place b;", 1 + 16 * 8);
+        }
         net("way (1);", 0);
         net("way 1<=1;", 1 + 16 * 6);
         net("way 1==1;", 1 + 16 * 6);

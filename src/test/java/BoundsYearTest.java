@@ -24,6 +24,7 @@ final class BoundsYearTest {
         test.nothingLies();
         test.onPurpose();
         test.layersKept();
+        test.layersApart();
         test.fullNet();
         test.check.end();
     }
@@ -417,6 +418,27 @@ final class BoundsYearTest {
         check.due("50 years in one call", most.layer(39, 0, 0), 7);
         check.due("50 years in one call", most.layer(40, 0, 0), -1);
         check.due("what fell is not bound to be kept", most.stuff(0, 2), 350);
+    }
+
+    private void layersApart() {
+        check.sentence("Parts of a STUFF in the LAYER of a YEAR on a road");
+        // In each of the years that are kept something else is lost on one road, of one stuff.
+        LostRoads roads = Check.told("stuff o hard 0 soft 0;stuff p hard 0 soft 0;stuff q hard 0 soft 0;"
+                + "stuff r hard 0 soft 0;stuff s hard 0 soft 0;place a;place b;" + "road a b long 1 holes 0;".repeat(10));
+        for (int year = 0; year < 40; year++) {
+            roads.lose(year * 7 % 10, year * 3 % 5, year + 1);
+            roads.years(1);
+            roads.lose(year * 7 % 10, year * 3 % 5, 0);
+        }
+        for (int year = 0; year < 40; year++) {
+            int road = year * 7 % 10;
+            int stuff = year * 3 % 5;
+            check.due("layer of " + year, roads.layer(year, road, stuff), year + 1);
+            check.due("the road beside", roads.layer(year, (road + 1) % 10, stuff), 0);
+            check.due("the stuff beside", roads.layer(year, road, (stuff + 1) % 5), 0);
+            check.due("the first road", roads.layer(year, 0, 0), road == 0 && stuff == 0 ? year + 1 : 0);
+            check.due("the last road", roads.layer(year, 9, 4), road == 9 && stuff == 4 ? year + 1 : 0);
+        }
     }
 
     /** All ten roads, all six trades, all five stuffs: the last of each is like the others. */
